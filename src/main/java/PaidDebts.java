@@ -194,9 +194,7 @@ public final class PaidDebts {
             return BAD;
         }
         goBehind(law, day);
-        long sum = course.sumLeft(debt);
-        long run = course.runLeft(debt);
-        return what == 0 ? sum : what == 1 ? run : sum + run;
+        return what == 0 ? course.sumLeft(debt) : what == 1 ? course.runLeft(debt) : course.leftOf(debt);
     }
 
     public long owed(int law, int day) {
@@ -355,14 +353,12 @@ public final class PaidDebts {
     public int parts() {
         course.start(book, 0);
         otherCourse.start(book, 1);
+        // What is left alike may be cut otherwise into sum and run, and then runs on unlike: no day can be passed over.
         for (int day = 0; day <= LAST_DAY; day++) {
-            // What is left alike runs on alike, so the laws can part only where a payment comes.
-            if (book.hasPaymentOn(day)) {
-                course.goBehind(day);
-                otherCourse.goBehind(day);
-                if (!course.isLike(otherCourse)) {
-                    return day;
-                }
+            course.goBehind(day);
+            otherCourse.goBehind(day);
+            if (!course.isLeftAlike(otherCourse)) {
+                return day;
             }
         }
         return NONE;
@@ -388,7 +384,7 @@ public final class PaidDebts {
         }
         goBehind(law, day);
         for (int d = 0; d < book.debtCount; d++) {
-            long wholes = (course.sumLeft(d) + course.runLeft(d)) / PARTS_OF_WHOLE;
+            long wholes = course.leftOf(d) / PARTS_OF_WHOLE;
             if (sheets[sheet].items[from + d] != wholes) {
                 return d;
             }
@@ -641,15 +637,6 @@ public final class PaidDebts {
             }
         }
 
-        boolean hasPaymentOn(int day) {
-            for (int p = 0; p < paymentCount; p++) {
-                if (payments[p].day == day) {
-                    return true;
-                }
-            }
-            return false;
-        }
-
         int debtsWithAtLeast(int trait, int bound) {
             int n = 0;
             for (int d = 0; d < debtCount; d++) {
@@ -812,19 +799,21 @@ public final class PaidDebts {
             return book.debts[d].since <= day ? run[d] : 0;
         }
 
+        long leftOf(int d) {
+            return sumLeft(d) + runLeft(d);
+        }
+
         long owedNow() {
             long owed = 0;
             for (int d = 0; d < book.debtCount; d++) {
-                if (book.debts[d].since <= day) {
-                    owed += sum[d] + run[d];
-                }
+                owed += leftOf(d);
             }
             return owed;
         }
 
-        boolean isLike(Course other) {
+        boolean isLeftAlike(Course other) {
             for (int d = 0; d < book.debtCount; d++) {
-                if (sum[d] != other.sum[d] || run[d] != other.run[d]) {
+                if (leftOf(d) != other.leftOf(d)) {
                     return false;
                 }
             }

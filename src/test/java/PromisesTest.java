@@ -697,13 +697,41 @@ public final class PromisesTest {
 
     private static void parts() {
         PaidDebts x = parting();
-        due("25 sum and run are not alike", x.parts(), 10);
+        due("25 left alike in all behind the payment, a day further not", x.parts(), 11);
         x.move(0, 0);
         due("25 nothing has run", x.parts(), -4);
-        x.move(0, 299);
+        x.move(0, 298);
         due("25 on the last day", x.parts(), 299);
+        due("25 alike on the day ahead", x.left(0, 0, 298, 2) - x.left(1, 0, 298, 2), 0);
+        x.move(0, 299);
+        due("25 no day is left to run on unlike", x.parts(), -4);
+        x.move(0, 10);
+        x.set(0, 0, 1);
+        due("25 upon itself the cut does not count", x.parts(), -4);
+        x.set(0, 0, 0);
+        x.set(0, 4, 0);
+        due("25 nothing runs", x.parts(), -4);
+        x.set(0, 4, 10);
         rule(x, 0, "s");
         due("25 never", x.parts(), -4);
+        x = new PaidDebts();
+        due("25 no debts", x.parts(), -4);
+        x.debt(10, 0, 0, 5);
+        x.debt(10, 0, 0, 7);
+        due("25 no payments", x.parts(), -4);
+        x.pay(4, 3);
+        rule(x, 1, "h");
+        due("25 to another debt on the day itself", x.parts(), 4);
+        due("25 though as much is owed in all", x.gap(4), 0);
+        x.move(0, 299);
+        due("25 to another debt on the last day", x.parts(), 299);
+        x = new PaidDebts();
+        x.debt(3, 0, 0, 10);
+        x.pay(10, 1);
+        rule(x, 1, "s");
+        due("25 sums of 20300 and 20000 run on by 20 alike", x.parts(), -4);
+        x.pay(50, 1);
+        due("25 sums of 11100 and 10000 do not", x.parts(), 51);
     }
 
     private static void gap() {

@@ -883,9 +883,10 @@ public final class RandomRunsTest {
         int parts() {
             Way a = way(0, 299), b = way(1, 299);
             for (int day = 0; day < 300; day++) {
-                if (!java.util.Arrays.equals(a.sumBehind[day], b.sumBehind[day])
-                        || !java.util.Arrays.equals(a.runBehind[day], b.runBehind[day])) {
-                    return day;
+                for (int d = 0; d < debts.size(); d++) {
+                    if (a.sumBehind[day][d] + a.runBehind[day][d] != b.sumBehind[day][d] + b.runBehind[day][d]) {
+                        return day;
+                    }
                 }
             }
             return -4;
