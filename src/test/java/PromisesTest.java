@@ -153,6 +153,7 @@ public final class PromisesTest {
         x.item(0, 1, 23, 0);
         due("5 not", x.pays(0, 1, 0, 12), -2);
         due("5 refused whole", x.count(1), 0);
+        due("5 index ahead of not", x.pays(0, 1, 22, 2), -13);
         x.pay(0, 1);
         due("5 not ahead of full", x.pays(0, 1, 0, 12), -2);
         x.item(0, 1, 23, 12);
