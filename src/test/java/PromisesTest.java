@@ -18,6 +18,7 @@ public final class PromisesTest {
         leftByWordsAndAnswers();
         leftByKeys();
         leftByParts();
+        singleParts();
         owed();
         put();
         paid();
@@ -400,6 +401,50 @@ public final class PromisesTest {
         due("12 parts behind a word", x.put(0, 1, 3, 0), 0);
     }
 
+    /** Where a single part decides. */
+    private static void singleParts() {
+        PaidDebts x = new PaidDebts();
+        x.debt(1, 0, 0, 1);
+        x.pay(1, 1);
+        due("12 one part is left", x.left(0, 0, 1, 2), 1);
+        due("19 one part is open", x.rank(0, 1, 0), 0);
+        due("15 one part is not paid", x.paid(0, 0), -4);
+        x.pay(2, 1);
+        due("14 one part is taken", x.put(0, 1, 0, 0), 1);
+        due("14 the rest is spare", x.put(0, 1, -1, 0), 9999);
+
+        x = new PaidDebts();
+        x.debt(1, 0, 0, 99);
+        x.debt(5, 0, 0, 0);
+        x.pay(101, 2);
+        due("14 of 20000 the first takes 19999", x.put(0, 0, 0, 0) + x.put(0, 0, 0, 1), 19999);
+        due("14 one part is over", x.put(0, 0, 1, 0), 1);
+        x.word(0, 0, 0);
+        rule(x, 0, "c");
+        due("14 one part is over behind a word", x.put(0, 0, 1, 0), 1);
+
+        x = new PaidDebts();
+        x.debt(9999, 0, 0, 0);
+        x.debt(1, 0, 0, 1);
+        x.set(1, 3, 5);
+        x.pay(1, 1);
+        x.word(0, 0, 1);
+        x.pay(20, 1);
+        rule(x, 0, "p c");
+        due("14 a part that is cut to nothing", x.put(0, 1, 1, 0) + x.put(0, 1, 1, 1), 0);
+        due("14 what the cuts leave goes to the first", x.put(0, 1, 0, 0), 10000);
+        due("17 nothing wakes nobody", x.wakes(0, 1), -4);
+        due("16 nothing gives no time", x.dead(0, 1, 21), 1);
+
+        x = new PaidDebts();
+        x.debt(2, 0, 0, 50);
+        x.pay(100, 1);
+        rule(x, 0, "s");
+        due("12 sum as much as run, sum", x.left(0, 0, 100, 0), 10000);
+        due("12 sum as much as run, run", x.left(0, 0, 100, 1), 10000);
+        due("15 sum as much as run is not paid", x.paid(0, 0), -4);
+    }
+
     private static void owed() {
         PaidDebts x = new PaidDebts();
         x.debt(3, 0, 0, 10);
@@ -558,6 +603,14 @@ public final class PromisesTest {
         x.set(0, 3, 8);
         due("19 by x not dead", x.rank(1, 9, 0), 1);
         due("19 without x dead too", x.rank(0, 9, 1), 0);
+        PaidDebts woken = timed();
+        rule(woken, 0, "x c");
+        woken.pay(30, 1);
+        woken.word(0, 0, 0);
+        due("19 dead on the day ahead", woken.rank(0, 29, 0), -4);
+        due("19 dead ahead of the payment that wakes it", woken.dead(0, 0, 30), 1);
+        due("19 woken behind it", woken.rank(0, 30, 0), 0);
+        due("19 dead again", woken.rank(0, 38, 0), -4);
         due("19 below", x.rank(0, 0, -1), -1);
         due("19 law", x.rank(2, 0, 0), -1);
         due("19 day", x.rank(0, 300, 0), -1);
