@@ -1,7 +1,5 @@
 /** For each promise of the document: ordinary calls, the edges that it names, wrong ones; answers worked out by hand. */
-public final class PromisesTest {
-    private static int wrong = 0;
-
+public final class PromisesTest extends Checks {
     public static void main(String[] args) {
         newObject();
         debt();
@@ -38,24 +36,7 @@ public final class PromisesTest {
         sheet();
         drop();
         item();
-        System.out.println(wrong == 0 ? "all promises are kept" : wrong + " answers are not as due");
-        if (wrong != 0) {
-            System.exit(1);
-        }
-    }
-
-    private static void due(String call, long got, long due) {
-        if (got != due) {
-            wrong++;
-            System.out.println(call + " answered " + got + ", due is " + due);
-        }
-    }
-
-    private static void rule(PaidDebts x, int law, String text) {
-        for (char c : text.toCharArray()) {
-            x.type(c, 1);
-        }
-        due("law " + text, x.law(law), text.replace(" ", "").length());
+        end("all promises are kept");
     }
 
     private static void newObject() {
@@ -874,6 +855,18 @@ public final class PromisesTest {
         x.pay(1, 1);
         due("29 a new payment has no word", x.word(0, 0, 0), -1);
         due("29 a new payment has no answer", x.word(0, 1, 0), -1);
+        int[] most = {1, 5, 1, 299, 99, 299};
+        int[] begun = {0, -1, 0, 0, 7, 8};
+        x.restore();
+        x.debt(1, 0, 0, 0);
+        for (int what = 0; what < 6; what++) {
+            x.set(1, what, most[what]);
+        }
+        x.restore();
+        x.debt(1, 0, 8, 7);
+        for (int what = 0; what < 6; what++) {
+            due("29 a new debt is as it begins, " + what, x.set(1, what, 0), begun[what]);
+        }
     }
 
     private static void sheet() {
