@@ -10,20 +10,26 @@ import java.util.regex.Pattern;
 
 /** The class has the document's face and no other, and its text keeps to what LANGUAGE.md rules out. */
 public final class LanguageTest {
-    private static final String FACE = "int debt 4;int set 3;int pay 2;int pays 4;int word 3;int move 2;int count 1;"
-        + "int type 2;int law 1;int letter 2;long left 4;long owed 2;long put 4;int paid 2;int dead 3;int wakes 2;"
-        + "int free 2;int rank 3;int best 4;long least 3;int answer 3;long hangs 6;long plan 5;int parts 0;long gap 1;"
-        + "int judge 5;int image 0;int restore 0;int sheet 3;int drop 1;int item 4";
+    private static final String FACE = "int debt(int int int int);int set(int int int);int pay(int int);"
+        + "int pays(int int int int);int word(int int int);int move(int int);int count(int);int type(long int);int law(int);"
+        + "int letter(int int);long left(int int int int);long owed(int int);long put(int int int int);int paid(int int);"
+        + "int dead(int int int);int wakes(int int);int free(int int);int rank(int int int);int best(int int int int);"
+        + "long least(int int int);int answer(int int int);long hangs(int int int int int int);"
+        + "long plan(int int int int int);int parts();long gap(int);int judge(int int int int int);int image();"
+        + "int restore();int sheet(int int int);int drop(int);int item(int int int int)";
     private static final Set<String> CONSTANTS
         = Set.of("BAD -1", "NOT -2", "FULL -3", "NONE -4", "NULL -11", "CAST -12", "INDEX -13", "SIZE -14");
     private static final String[] RULED_OUT = {"\\b(throw|throws|try|catch|synchronized|assert|protected)\\b", "->", "::",
         "\\b(toString|hashCode|Object|System\\.out|System\\.nano|System\\.current|Thread|Random)\\b", "\\w+Exact\\b",
         "\\bthis\\b\\s*[,)]"};
+    private static final int MOST_FIELDS = 20;
+    private static final int MOST_LINES = 60;
     private static int wrong = 0;
 
     public static void main(String[] args) throws Exception {
         face();
         text();
+        lengths();
         System.out.println(wrong == 0 ? "the class keeps to its face and language" : wrong + " faults of face or language");
         if (wrong != 0) {
             System.exit(1);
@@ -39,8 +45,9 @@ public final class LanguageTest {
         if (!Modifier.isFinal(PaidDebts.class.getModifiers()) || !Modifier.isPublic(PaidDebts.class.getModifiers())) {
             say("the class is not public and final");
         }
-        if (PaidDebts.class.getConstructors().length != 1 || PaidDebts.class.getDeclaredConstructors().length != 1) {
-            say("there is not one constructor");
+        if (PaidDebts.class.getConstructors().length != 1 || PaidDebts.class.getDeclaredConstructors().length != 1
+                || PaidDebts.class.getConstructors()[0].getParameterCount() != 0) {
+            say("there is not one constructor, which takes nothing");
         }
         Set<String> open = new TreeSet<>();
         Set<String> names = new TreeSet<>();
@@ -49,7 +56,7 @@ public final class LanguageTest {
             if (Modifier.isPrivate(m.getModifiers())) {
                 hidden.add(m.getName());
             } else {
-                open.add(m.getReturnType() + " " + m.getName() + " " + m.getParameterCount());
+                open.add(signature(m));
                 names.add(m.getName());
             }
         }
@@ -60,6 +67,9 @@ public final class LanguageTest {
         for (Field f : PaidDebts.class.getDeclaredFields()) {
             if (!Modifier.isPrivate(f.getModifiers())) {
                 constants.add(f.getName() + " " + f.getInt(null));
+                if (!Modifier.isPublic(f.getModifiers()) || f.getType() != int.class) {
+                    say("not a public int: " + f);
+                }
             }
             if (Modifier.isStatic(f.getModifiers()) && !Modifier.isFinal(f.getModifiers())) {
                 say("static and not final: " + f);
@@ -72,6 +82,9 @@ public final class LanguageTest {
             if (!Modifier.isStatic(inside.getModifiers()) || Modifier.isPublic(inside.getModifiers())) {
                 say("not static, or public: " + inside);
             }
+            if (inside.getDeclaredFields().length > MOST_FIELDS) {
+                say("too many fields: " + inside);
+            }
             for (Method m : inside.getDeclaredMethods()) {
                 hidden.add(m.getName());
                 if (m.getParameterCount() > 7) {
@@ -82,6 +95,36 @@ public final class LanguageTest {
         hidden.retainAll(names);
         if (!hidden.isEmpty()) {
             say("names of public methods are borne by others: " + hidden);
+        }
+    }
+
+    private static String signature(Method m) {
+        StringBuilder types = new StringBuilder();
+        for (Class<?> type : m.getParameterTypes()) {
+            types.append(types.length() == 0 ? "" : " ").append(type.getName());
+        }
+        return m.getReturnType() + " " + m.getName() + "(" + types + ")";
+    }
+
+    /** A method begins with a line that ends by "{" and ends with a "}" as far from the left. */
+    private static void lengths() throws Exception {
+        String begin = "";
+        int from = 0;
+        int line = 0;
+        for (String text : Files.readAllLines(Path.of("src/main/java/PaidDebts.java"))) {
+            line++;
+            if (text.matches(" {4,8}(?!if |for |while |switch |else |do )\\w[^=;]*\\).*\\{")) {
+                begin = text;
+                from = line;
+            } else if (from > 0 && text.equals(begin.replaceAll("\\S.*", "") + "}")) {
+                if (line - from > MOST_LINES) {
+                    say("too long: " + begin);
+                }
+                from = 0;
+            }
+        }
+        if (line == 0 || begin.isEmpty()) {
+            say("there are no methods");
         }
     }
 
