@@ -125,7 +125,8 @@ public final class ChangesTest extends Checks {
         Map<String, Long> answers = new LinkedHashMap<>(FIRST);
         for (int i = 0; i < changed.length; i += 2) {
             Long old = answers.put((String) changed[i], ((Number) changed[i + 1]).longValue());
-            due(changed[i] + " is a question that changes", old == null || old.equals(answers.get(changed[i])) ? 0 : 1, 1);
+            boolean isNew = old != null && !old.equals(answers.get(changed[i]));
+            due(changed[i] + " is a question whose answer changes", isNew ? 1 : 0, 1);
         }
         PaidDebts x = scene();
         askAll("ahead of " + name, x, FIRST);
@@ -170,9 +171,9 @@ public final class ChangesTest extends Checks {
     }
 
     private static void debtsAndPayments() {
-        after("a debt", x -> x.debt(8, 15, 15, 20), "8 debts", 4, "12 sum 1", 142000, "13 owed 0", 150420 + 80000 + 45 * 160,
-            "13 owed 1", 142000 + 50 * 142 + 50000 + 33220 + 20 * 66, "14 to the sum 1", 0, "19 rank 1", 1,
-            "20 best of two", 3, "21 least by one", 149100 + 87200, "21 least by two", 229900,
+        after("a debt", x -> x.debt(8, 15, 15, 20), "8 debts", 4, "12 sum 1", 142000,
+            "13 owed 0", 150420 + 80000 + 45 * 160, "13 owed 1", 142000 + 50 * 142 + 50000 + 33220 + 20 * 66,
+            "14 to the sum 1", 0, "19 rank 1", 1, "20 best of two", 3, "21 least by one", 149100 + 87200, "21 least by two", 229900,
             "23 hangs, least", 150420 + 87200, "23 hangs, most", 150565 + 87200, "24 plan, day", 75,
             "24 plan, spare", 860, "26 gap", -3980, "27 judge 0", 3);
         after("a payment", x -> x.pay(9, 7), "8 payments", 4, "12 run 0", 1500, "12 both 0", 77280, "12 sum 1", 23681,
@@ -233,7 +234,8 @@ public final class ChangesTest extends Checks {
         after("another law 1", x -> rule(x, 1, "p"), "11 letter 1", -4, "12 sum 1", 84652, "13 owed 1", 147350,
             "14 to the sum 1", 15433, "15 paid 1", -4, "18 free 1", -4, "19 rank 1", 1, "22 answer to 0", -1,
             "22 answer to 1", -1, "26 gap", -3070, "27 judge 1", 0);
-        after("the same letters in another order, where it does not count", x -> rule(x, 0, "xc"), "11 letter 0", (int) 'c');
+        after("the same letters in another order, which does not count", x -> rule(x, 0, "xc"),
+            "11 letter 0", (int) 'c');
     }
 
     /** Sheets are no part of the book: only judge hangs on them, and restore leaves them. */
@@ -260,8 +262,8 @@ public final class ChangesTest extends Checks {
 
     private static void refusedOnes() {
         PaidDebts x = scene();
-        long[] refused = {x.debt(0, 0, 0, 0), x.set(1, 4, 100), x.set(3, 4, 0), x.pay(300, 1), x.pay(9, 0), x.move(0, 300),
-            x.move(3, 0)};
+        long[] refused = {x.debt(0, 0, 0, 0), x.set(1, 4, 100), x.set(3, 4, 0), x.pay(300, 1), x.pay(9, 0),
+            x.move(0, 300), x.move(3, 0)};
         for (long answer : refused) {
             due("2 to 7 refused", answer, -1);
         }

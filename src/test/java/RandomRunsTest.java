@@ -207,7 +207,8 @@ public final class RandomRunsTest {
     }
 
     private String debtCall() {
-        int w = dice.nextInt(5) == 0 ? wholes() : number(20, 300), s = day(), d = day(), r = dice.nextInt(3) == 0 ? dice.nextInt(3) : number(0, 99);
+        int w = dice.nextInt(5) == 0 ? wholes() : number(20, 300), s = day(), d = day();
+        int r = dice.nextInt(3) == 0 ? dice.nextInt(3) : number(0, 99);
         return same("debt", real.debt(w, s, d, r), model.debt(w, s, d, r), w, s, d, r);
     }
 
@@ -311,7 +312,8 @@ public final class RandomRunsTest {
         for (int d = 0; d < model.debts.size() && d < right; d++) {
             long left = Math.max(0, model.left(l, d, day, 2));
             int v = (int) (left / 10000);
-            String fault = same("item", real.item(s, lane, from + d, v), model.item(s, lane, from + d, v), s, lane, from + d, v);
+            int i = from + d;
+            String fault = same("item", real.item(s, lane, i, v), model.item(s, lane, i, v), s, lane, i, v);
             if (fault != null) {
                 return fault;
             }

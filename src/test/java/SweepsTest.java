@@ -87,7 +87,8 @@ public final class SweepsTest extends Checks {
     }
 
     private void addDebt() {
-        int whole = 3 + dice.nextInt(12), since = dice.nextInt(3) * 6, due = dice.nextInt(40), rate = dice.nextInt(5) * 20;
+        int whole = 3 + dice.nextInt(12), since = dice.nextInt(3) * 6;
+        int due = dice.nextInt(40), rate = dice.nextInt(5) * 20;
         same("debt", real.debt(whole, since, due, rate), model.debt(whole, since, due, rate));
     }
 
